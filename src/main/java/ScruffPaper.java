@@ -38,6 +38,10 @@ public final class ScruffPaper {
     private static final int SIGNS = 128;
     private static final int VALUES = 32;
     private static final int END = -1;
+    private static final int CONDITION = 0;
+    private static final int PART = 1;
+    private static final int SUM = 2;
+    private static final int TERM = 3;
     private static final int CANNOT_STAND = 1;
     private static final int SIXTH_DIGIT = 2;
     private static final int TOO_MANY_CLAUSES = 4;
@@ -520,25 +524,39 @@ public final class ScruffPaper {
         private int length = 0;
         private int at = 0;
         private int used = 0;
-        private int clauses = 0;
         private int fault = 0;
 
         /** The law (letter h) or the way (letter k) that the bytes are; null: a fault. */
         Text writeClauses(int[] from, int many, char letter) {
             begin(from, many);
-            return clausesStand(letter) ? written() : null;
+            for (int i = 0; i < CLAUSES; i++) {
+                if (!clauseStands(letter, i)) {
+                    return null;
+                }
+                if (at == length) {
+                    return written(i + 1);
+                }
+                if (!signStands(';')) {
+                    return null;
+                }
+            }
+            fail(next() == letter ? TOO_MANY_CLAUSES : CANNOT_STAND);
+            return null;
         }
 
         /** The story that the bytes are; null: a fault. */
         Text writeExpression(int[] from, int many) {
             begin(from, many);
-            if (!sumStands(0) || !endStands()) {
+            if (!rowStands(SUM, 0)) {
                 return null;
             }
-            clauses = 1;
+            if (at < length) {
+                fail(CANNOT_STAND);
+                return null;
+            }
             middles[0] = used;
             starts[1] = used;
-            return written();
+            return written(1);
         }
 
         int faultCode() {
@@ -550,12 +568,11 @@ public final class ScruffPaper {
             length = Math.min(many, from.length);
             at = 0;
             used = 0;
-            clauses = 0;
             fault = 0;
             starts[0] = 0;
         }
 
-        private Text written() {
+        private Text written(int clauses) {
             return new Text(clauses, Arrays.copyOf(code, used), Arrays.copyOf(starts, clauses + 1),
                     Arrays.copyOf(middles, clauses));
         }
@@ -577,10 +594,6 @@ public final class ScruffPaper {
             return true;
         }
 
-        private boolean endStands() {
-            return at == length || fail(CANNOT_STAND);
-        }
-
         private void put(int sign, int with) {
             if (used < code.length) {
                 code[used] = with << 8 | sign;
@@ -589,93 +602,92 @@ public final class ScruffPaper {
         }
 
         /** Lets the word at a place, an & or a |, leap to where the code ends now. */
-        private void leapHere(int place, int sign) {
+        private void leapHere(int place) {
             if (place < used) {
-                code[place] = used << 8 | sign;
+                code[place] = used << 8 | code[place] & 255;
             }
-        }
-
-        private boolean clausesStand(char letter) {
-            for (int i = 0; i < CLAUSES; i++) {
-                if (!clauseStands(letter, i)) {
-                    return false;
-                }
-                if (at == length) {
-                    return true;
-                }
-                if (!signStands(';')) {
-                    return false;
-                }
-            }
-            return fail(next() == letter ? TOO_MANY_CLAUSES : CANNOT_STAND);
         }
 
         private boolean clauseStands(char letter, int i) {
-            if (!signStands(letter) || letter == 'h' && !sumStands(0)) {
+            if (!signStands(letter) || letter == 'h' && !rowStands(SUM, 0)) {
                 return false;
             }
             middles[i] = used;
-            if (!signStands('(') || !conditionStands(1) || !signStands(')')) {
+            if (!signStands('(') || !rowStands(CONDITION, 1) || !signStands(')')) {
                 return false;
             }
-            clauses = i + 1;
-            starts[clauses] = used;
+            starts[i + 1] = used;
             return true;
         }
 
-        private boolean conditionStands(int open) {
-            if (!partStands(open)) {
+        /** A C, a part, an E or a term: operands with signs of its own between two; so many brackets are open about it. */
+        private boolean rowStands(int kind, int open) {
+            if (!operandStands(kind, open)) {
                 return false;
             }
-            for (int i = 0; i < length && next() == '|'; i++) {
+            for (int i = 0; i < length && joins(kind, next()); i++) {
+                int sign = next();
                 int leap = used;
-                put('|', 0);
+                boolean leaps = kind == CONDITION || kind == PART;
+                if (leaps) {
+                    put(sign, 0);
+                }
                 at++;
-                if (!partStands(open)) {
+                if (!operandStands(kind, open)) {
                     return false;
                 }
-                leapHere(leap, '|');
+                if (leaps) {
+                    leapHere(leap);
+                } else {
+                    put(sign, 0);
+                }
             }
             return true;
         }
 
-        private boolean partStands(int open) {
-            if (!pieceStands(open)) {
-                return false;
+        private boolean operandStands(int kind, int open) {
+            switch (kind) {
+                case CONDITION:
+                    return rowStands(PART, open);
+                case PART:
+                    return pieceStands(open);
+                case SUM:
+                    return rowStands(TERM, open);
+                default:
+                    return factorStands(open);
             }
-            for (int i = 0; i < length && next() == '&'; i++) {
-                int leap = used;
-                put('&', 0);
-                at++;
-                if (!pieceStands(open)) {
-                    return false;
-                }
-                leapHere(leap, '&');
+        }
+
+        private static boolean joins(int kind, int sign) {
+            switch (kind) {
+                case CONDITION:
+                    return sign == '|';
+                case PART:
+                    return sign == '&';
+                case SUM:
+                    return sign == '+' || sign == '-';
+                default:
+                    return sign == '*' || sign == '/' || sign == '%';
             }
-            return true;
         }
 
         private boolean pieceStands(int open) {
-            int sign = next();
-            if (sign != '!' && sign != '(') {
-                return comparisonStands(open);
+            int first = next();
+            if (first == '!' || first == '(') {
+                if (open >= OPEN_AT_ONCE) {
+                    return fail(TOO_DEEP);
+                }
+                at++;
+                if (first == '(') {
+                    return rowStands(CONDITION, open + 1) && signStands(')');
+                }
+                if (!pieceStands(open + 1)) {
+                    return false;
+                }
+                put('!', 0);
+                return true;
             }
-            if (open >= OPEN_AT_ONCE) {
-                return fail(TOO_DEEP);
-            }
-            at++;
-            if (sign == '(') {
-                return conditionStands(open + 1) && signStands(')');
-            }
-            if (!pieceStands(open + 1)) {
-                return false;
-            }
-            put('!', 0);
-            return true;
-        }
-
-        private boolean comparisonStands(int open) {
-            if (!sumStands(open)) {
+            if (!rowStands(SUM, open)) {
                 return false;
             }
             int sign = next();
@@ -683,40 +695,10 @@ public final class ScruffPaper {
                 return fail(CANNOT_STAND);
             }
             at++;
-            if (!sumStands(open)) {
+            if (!rowStands(SUM, open)) {
                 return false;
             }
             put(sign, 0);
-            return true;
-        }
-
-        private boolean sumStands(int open) {
-            if (!termStands(open)) {
-                return false;
-            }
-            for (int i = 0; i < length && (next() == '+' || next() == '-'); i++) {
-                int sign = next();
-                at++;
-                if (!termStands(open)) {
-                    return false;
-                }
-                put(sign, 0);
-            }
-            return true;
-        }
-
-        private boolean termStands(int open) {
-            if (!factorStands(open)) {
-                return false;
-            }
-            for (int i = 0; i < length && (next() == '*' || next() == '/' || next() == '%'); i++) {
-                int sign = next();
-                at++;
-                if (!factorStands(open)) {
-                    return false;
-                }
-                put(sign, 0);
-            }
             return true;
         }
 
@@ -727,7 +709,7 @@ public final class ScruffPaper {
                     return fail(TOO_DEEP);
                 }
                 at++;
-                return sumStands(open + 1) && signStands(']');
+                return rowStands(SUM, open + 1) && signStands(']');
             }
             if (isDigit(sign)) {
                 return numberStands();
