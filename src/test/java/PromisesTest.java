@@ -920,6 +920,11 @@ public final class PromisesTest {
         z.night(0, 2001);
         due("too far", z.bound(4, 0), -2);
         due("just reached", z.bound(4, 1), 2000);
+        ScruffPaper torn = new ScruffPaper();
+        torn.night(0, 1);
+        torn.night(2, 0);
+        due("two nights that leave nothing in common", torn.bound(4, 0), -2);
+        due("with an error of 1", torn.bound(4, 1), 2000);
         // All of W in a year of 7; 1001 times each of them is still rounded to it.
         ScruffPaper seventh = new ScruffPaper();
         int[] shifts = {0, 571, 858, 286, -285, -857, -572};
