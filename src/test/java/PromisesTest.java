@@ -70,19 +70,6 @@ public final class PromisesTest {
         return Due.story(new ScruffPaper(), 0, text);
     }
 
-    /** What an E is worth on night 0 of day 5. */
-    private static int worth(String text) {
-        ScruffPaper x = new ScruffPaper();
-        x.night(5, 0);
-        due("story " + text, Due.story(x, 0, text), 1);
-        return x.says(0, 0);
-    }
-
-    /** Whether a C holds on day 5 at minute 720. */
-    private static int holds(String condition) {
-        return withLaw("h1(" + condition + ")").height(0, 5, 720);
-    }
-
     private static void newObject() {
         ScruffPaper x = new ScruffPaper();
         for (int what = 0; what <= 5; what++) {
@@ -261,55 +248,55 @@ public final class PromisesTest {
     }
 
     private static void reckoning() {
-        due("from the left on", worth("10-3-2"), 5);
-        due("terms first", worth("2+3*4"), 14);
-        due("factors from the left", worth("100/7*7%10"), 8);
-        due("brackets", worth("[2+3]*4"), 20);
-        due("to 0 rounded", worth("[0-7]/2"), -3);
-        due("the rest of less than 0", worth("[0-7]%4"), -3);
-        due("32 bits", worth("99999*99999"), 1409865409);
-        due("32 bits below 0", worth("[0-99999]*99999"), -1409865409);
-        due("least int through -1", worth("[[[2-4]*32768*32768]]/[0-1]"), Integer.MIN_VALUE);
-        due("least int modulo -1", worth("[[2-4]*32768*32768]%[0-1]"), 0);
-        due("d of a story", worth("d"), 5);
-        due("letters of others", worth("m+s+a+u+f+x+h+b+g+l+t+1"), 1);
-        due("through 0", worth("7+1/0"), 0);
-        due("modulo 0", worth("7+1%[d-5]"), 0);
-        due("through 0 in brackets", worth("7+[1/0]"), 0);
-        due("0 through 0 times 0", worth("0*[0/0]+3"), 0);
-        due("leading zeros", worth("00007"), 7);
-        due("below", holds("1<2"), 1);
-        due("not below", holds("2<2"), 0);
-        due("above", holds("2>1"), 1);
-        due("not above", holds("2>2"), 0);
-        due("like", holds("1+1=2"), 1);
-        due("compared with a sign", holds("0-1<0"), 1);
-        due("not", holds("!1=2"), 1);
-        due("not not", holds("!!1=2"), 0);
-        due("not like", holds("!1=1"), 0);
-        due("not above", holds("!2>1"), 0);
-        due("not below", holds("!1<2"), 0);
-        due("not of brackets", holds("!(1=1&2=2)"), 0);
-        due("not of a piece alone", holds("!1=2&1=2"), 0);
-        due("& before |", holds("1=1|1=2&1=2"), 1);
-        due("| in brackets", holds("(1=1|1=2)&1=2"), 0);
-        due("three parts", holds("1=2|1=2|1=1"), 1);
-        due("three pieces", holds("1=1&1=1&1=2"), 0);
-        due("a part behind pieces", holds("1=2&1=1|1=1&1=1"), 1);
+        due("from the left on", Due.worth("10-3-2"), 5);
+        due("terms first", Due.worth("2+3*4"), 14);
+        due("factors from the left", Due.worth("100/7*7%10"), 8);
+        due("brackets", Due.worth("[2+3]*4"), 20);
+        due("to 0 rounded", Due.worth("[0-7]/2"), -3);
+        due("the rest of less than 0", Due.worth("[0-7]%4"), -3);
+        due("32 bits", Due.worth("99999*99999"), 1409865409);
+        due("32 bits below 0", Due.worth("[0-99999]*99999"), -1409865409);
+        due("least int through -1", Due.worth("[[[2-4]*32768*32768]]/[0-1]"), Integer.MIN_VALUE);
+        due("least int modulo -1", Due.worth("[[2-4]*32768*32768]%[0-1]"), 0);
+        due("d of a story", Due.worth("d"), 5);
+        due("letters of others", Due.worth("m+s+a+u+f+x+h+b+g+l+t+1"), 1);
+        due("through 0", Due.worth("7+1/0"), 0);
+        due("modulo 0", Due.worth("7+1%[d-5]"), 0);
+        due("through 0 in brackets", Due.worth("7+[1/0]"), 0);
+        due("0 through 0 times 0", Due.worth("0*[0/0]+3"), 0);
+        due("leading zeros", Due.worth("00007"), 7);
+        due("below", Due.holds("1<2"), 1);
+        due("not below", Due.holds("2<2"), 0);
+        due("above", Due.holds("2>1"), 1);
+        due("not above", Due.holds("2>2"), 0);
+        due("like", Due.holds("1+1=2"), 1);
+        due("compared with a sign", Due.holds("0-1<0"), 1);
+        due("not", Due.holds("!1=2"), 1);
+        due("not not", Due.holds("!!1=2"), 0);
+        due("not like", Due.holds("!1=1"), 0);
+        due("not above", Due.holds("!2>1"), 0);
+        due("not below", Due.holds("!1<2"), 0);
+        due("not of brackets", Due.holds("!(1=1&2=2)"), 0);
+        due("not of a piece alone", Due.holds("!1=2&1=2"), 0);
+        due("& before |", Due.holds("1=1|1=2&1=2"), 1);
+        due("| in brackets", Due.holds("(1=1|1=2)&1=2"), 0);
+        due("three parts", Due.holds("1=2|1=2|1=1"), 1);
+        due("three pieces", Due.holds("1=1&1=1&1=2"), 0);
+        due("a part behind pieces", Due.holds("1=2&1=1|1=1&1=1"), 1);
     }
 
     private static void asMuchAsMatters() {
-        due("a C does not hold", holds("1/0=0"), 0);
-        due("nor does its contrary", holds("!1/0=0"), 0);
-        due("nor in brackets", holds("!(1/0=0)"), 0);
-        due("nor does a part behind it", holds("1/0=0|1=1"), 0);
-        due("nor behind brackets", holds("(1/0=0)|1=1"), 0);
-        due("a part ahead", holds("1=1|1/0=0"), 1);
-        due("a piece ahead", holds("!(1=2&1/0=0)"), 1);
-        due("what is not asked in the midst", holds("1=2&1/0=0|1=1"), 1);
-        due("asked on", holds("1=1&1/0=0|1=1"), 0);
-        due("not asked twice", holds("1=2&1/0=0&1/0=0|1=1|1/0=0"), 1);
-        due("both sides are asked", holds("1=2/0|1=1"), 0);
+        due("a C does not hold", Due.holds("1/0=0"), 0);
+        due("nor does its contrary", Due.holds("!1/0=0"), 0);
+        due("nor in brackets", Due.holds("!(1/0=0)"), 0);
+        due("nor does a part behind it", Due.holds("1/0=0|1=1"), 0);
+        due("nor behind brackets", Due.holds("(1/0=0)|1=1"), 0);
+        due("a part ahead", Due.holds("1=1|1/0=0"), 1);
+        due("a piece ahead", Due.holds("!(1=2&1/0=0)"), 1);
+        due("what is not asked in the midst", Due.holds("1=2&1/0=0|1=1"), 1);
+        due("asked on", Due.holds("1=1&1/0=0|1=1"), 0);
+        due("not asked twice", Due.holds("1=2&1/0=0&1/0=0|1=1|1/0=0"), 1);
+        due("both sides are asked", Due.holds("1=2/0|1=1"), 0);
         due("the next clause", withLaw("h5(1/0=0);h6(1=1)").height(0, 0, 720), 6);
         due("the E of the first that holds", withLaw("h5/0(1=1);h6(1=1)").height(0, 0, 720), 0);
     }

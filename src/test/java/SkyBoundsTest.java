@@ -64,6 +64,8 @@ public final class SkyBoundsTest {
             due("full: count " + what, full.count(what), most[what]);
         }
         due("full: the tape is the marks", full.check(3, 6, 16), NONE);
+        Bounds.staysAsSeen("bare", Bounds.bare());
+        Bounds.staysAsSeen("some", Bounds.some(""));
     }
 
     /** "No SOURCES, NOTES, BLIPS, NIGHTS; no TEXTS; SEED 0." */

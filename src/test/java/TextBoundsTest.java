@@ -56,21 +56,6 @@ public final class TextBoundsTest {
         return Due.story(new ScruffPaper(), 0, text);
     }
 
-    /** What an E says on night 0 of day 5. */
-    private static int worth(String text) {
-        ScruffPaper x = new ScruffPaper();
-        x.night(5, 0);
-        due("story " + text, Due.story(x, 0, text), 1);
-        return x.says(0, 0);
-    }
-
-    /** Whether a C holds. */
-    private static int holds(String condition) {
-        ScruffPaper x = withSource();
-        due("law with " + condition, Due.law(x, 0, "h1(" + condition + ")"), 1);
-        return x.height(0, 5, 720);
-    }
-
     /** Promise 5: "NONE: no such ones". */
     private static void lawsOfSources() {
         due("law of source 0", law("h1(1=1)"), 1);
@@ -154,10 +139,10 @@ public final class TextBoundsTest {
 
     /** "60 bytes at most"; "by the first n bytes of the tape (1 to 60 ..)". */
     private static void bytesOfStories() {
-        due("one byte", worth("d"), 5);
+        due("one byte", Due.worth("d"), 5);
         String longest = "12+" + "1+".repeat(28) + "d";
         due("its length", longest.length(), 60);
-        due("60 bytes", worth(longest), 45);
+        due("60 bytes", Due.worth(longest), 45);
         Bounds.refused("story of 0 bytes", NONE, x -> x.story(0, 0));
         Bounds.refused("story of -1 bytes", NONE, x -> x.story(0, -1));
         Bounds.refused("story of 61 bytes", NONE, x -> x.story(0, 61));
@@ -266,11 +251,11 @@ public final class TextBoundsTest {
 
     /** "a number of one to five digits". */
     private static void fiveDigits() {
-        due("one digit", worth("7"), 7);
-        due("0", worth("0+3"), 3);
-        due("five digits", worth("99999"), 99999);
-        due("five zeros", worth("00000+4"), 4);
-        due("zeros ahead", worth("00012"), 12);
+        due("one digit", Due.worth("7"), 7);
+        due("0", Due.worth("0+3"), 3);
+        due("five digits", Due.worth("99999"), 99999);
+        due("five zeros", Due.worth("00000+4"), 4);
+        due("zeros ahead", Due.worth("00012"), 12);
         due("no digit", story("+1"), -1000);
     }
 
@@ -303,10 +288,10 @@ public final class TextBoundsTest {
         due("a ( and five !", way("k(!!!!!1=1)"), 1);
         due("a ( and five [", way("k([[[[[1]]]]]=[[[[[1]]]]])"), 1);
         due("of each two", way("k(!(![[1]]=1))"), 1);
-        due("six [ of a story", worth("[[[[[[7]]]]]]"), 7);
+        due("six [ of a story", Due.worth("[[[[[[7]]]]]]"), 7);
         due("six [ of a law's E, ahead of the (", law("h[[[[[[1]]]]]]((((((1=1))))))"), 1);
         due("side by side they do not count", way("k((1=1)&(1=1)&(1=1)&(1=1)&(1=1)&(1=1)&(1=1))"), 1);
-        due("nor do [", worth("[1]+[1]+[1]+[1]+[1]+[1]+[1]+[1]"), 8);
+        due("nor do [", Due.worth("[1]+[1]+[1]+[1]+[1]+[1]+[1]+[1]"), 8);
         due("nor do !", way("k(!1=2&!1=2&!1=2&!1=2&!1=2&!1=2&!1=2)"), 1);
         due("each clause anew", way("k((((((1=1))))));k((((((1=1))))))"), 2);
     }
@@ -488,38 +473,38 @@ public final class TextBoundsTest {
     /** "All is reckoned with 32 bits, as the machine does". */
     private static void thirtyTwoBits() {
         String least = "32768*32768*2";
-        due("the least int", worth(least), Integer.MIN_VALUE);
-        due("less 1 is the greatest", worth(least + "-1"), Integer.MAX_VALUE);
-        due("and 1 more is the least again", worth(least + "-1+1"), Integer.MIN_VALUE);
-        due("times 2", worth(least + "*2+3"), 3);
-        due("the least through -1", worth("[" + least + "]/[0-1]"), Integer.MIN_VALUE);
-        due("the least modulo -1", worth("[" + least + "]%[0-1]+5"), 5);
-        due("0 less the least", worth("0-[" + least + "]"), Integer.MIN_VALUE);
-        due("99999 squared", worth("99999*99999"), 99999 * 99999);
-        due("to 0 rounded", worth("[0-7]/2"), -3);
-        due("the rest has the sign of the left", worth("[0-7]%2"), -1);
-        due("and not of the right", worth("7%[0-2]"), 1);
-        due("compared with their signs", holds(least + "<0"), 1);
-        due("the least is below the greatest", holds(least + "<" + least + "-1"), 1);
-        due("wrapped to be like", holds("65536*65536=0"), 1);
+        due("the least int", Due.worth(least), Integer.MIN_VALUE);
+        due("less 1 is the greatest", Due.worth(least + "-1"), Integer.MAX_VALUE);
+        due("and 1 more is the least again", Due.worth(least + "-1+1"), Integer.MIN_VALUE);
+        due("times 2", Due.worth(least + "*2+3"), 3);
+        due("the least through -1", Due.worth("[" + least + "]/[0-1]"), Integer.MIN_VALUE);
+        due("the least modulo -1", Due.worth("[" + least + "]%[0-1]+5"), 5);
+        due("0 less the least", Due.worth("0-[" + least + "]"), Integer.MIN_VALUE);
+        due("99999 squared", Due.worth("99999*99999"), 99999 * 99999);
+        due("to 0 rounded", Due.worth("[0-7]/2"), -3);
+        due("the rest has the sign of the left", Due.worth("[0-7]%2"), -1);
+        due("and not of the right", Due.worth("7%[0-2]"), 1);
+        due("compared with their signs", Due.holds(least + "<0"), 1);
+        due("the least is below the greatest", Due.holds(least + "<" + least + "-1"), 1);
+        due("wrapped to be like", Due.holds("65536*65536=0"), 1);
     }
 
     /** "what is divided by 0 is REFUSED: then a C does not hold, an E is 0." */
     private static void dividedByZero() {
-        due("an E through 0", worth("7/0"), 0);
-        due("an E modulo 0", worth("7%0"), 0);
-        due("0 through 0", worth("0/0"), 0);
-        due("through 1", worth("7/1"), 7);
-        due("modulo 1", worth("9+7%1"), 9);
-        due("through -1", worth("7/[0-1]"), -7);
-        due("all of the E is 0", worth("5+7/0"), 0);
-        due("behind it, too", worth("7/0+5"), 0);
-        due("by a letter that is 0", worth("5+7/n"), 0);
-        due("by one that is not", worth("5+7/d"), 6);
-        due("a C through 0", holds("7/0=0"), 0);
-        due("a C modulo 0", holds("7%0=0"), 0);
-        due("on the right side", holds("0=7/0"), 0);
-        due("nor does it hold with !", holds("!7/0=0"), 0);
+        due("an E through 0", Due.worth("7/0"), 0);
+        due("an E modulo 0", Due.worth("7%0"), 0);
+        due("0 through 0", Due.worth("0/0"), 0);
+        due("through 1", Due.worth("7/1"), 7);
+        due("modulo 1", Due.worth("9+7%1"), 9);
+        due("through -1", Due.worth("7/[0-1]"), -7);
+        due("all of the E is 0", Due.worth("5+7/0"), 0);
+        due("behind it, too", Due.worth("7/0+5"), 0);
+        due("by a letter that is 0", Due.worth("5+7/n"), 0);
+        due("by one that is not", Due.worth("5+7/d"), 6);
+        due("a C through 0", Due.holds("7/0=0"), 0);
+        due("a C modulo 0", Due.holds("7%0=0"), 0);
+        due("on the right side", Due.holds("0=7/0"), 0);
+        due("nor does it hold with !", Due.holds("!7/0=0"), 0);
         ScruffPaper x = withSource();
         due("a law whose first C is refused", Due.law(x, 0, "h5(1/0=0);h6(1=1)"), 2);
         due("goes on to the second", x.height(0, 0, 720), 6);
@@ -535,31 +520,31 @@ public final class TextBoundsTest {
 
     /** "Of a C as much is asked, from the left, as matters." */
     private static void askedAsMuchAsMatters() {
-        due("a part that holds ends it", holds("1=1|1/0=0"), 1);
-        due("a part that does not goes on", holds("1=2|1/0=0|1=1"), 0);
-        due("a piece that does not hold ends its part", holds("1=2&1/0=0|1=1"), 1);
-        due("a piece that holds goes on", holds("1=1&1/0=0|1=1"), 0);
-        due("the third part is not asked", holds("1=2|1=1|1/0=0"), 1);
-        due("the third piece is not asked", holds("1=1&1=2&1/0=0|1=1"), 1);
-        due("within brackets", holds("(1=1|1/0=0)&1=1"), 1);
-        due("within brackets, &", holds("(1=2&1/0=0)|1=1"), 1);
-        due("behind a !", holds("!(1=2&1/0=0)"), 1);
-        due("an E is asked whole", holds("0*[1/0]=0"), 0);
-        due("both sides are asked", holds("1=2/0|1=1"), 0);
-        due("from the left", holds("1/0=0|1=1"), 0);
+        due("a part that holds ends it", Due.holds("1=1|1/0=0"), 1);
+        due("a part that does not goes on", Due.holds("1=2|1/0=0|1=1"), 0);
+        due("a piece that does not hold ends its part", Due.holds("1=2&1/0=0|1=1"), 1);
+        due("a piece that holds goes on", Due.holds("1=1&1/0=0|1=1"), 0);
+        due("the third part is not asked", Due.holds("1=2|1=1|1/0=0"), 1);
+        due("the third piece is not asked", Due.holds("1=1&1=2&1/0=0|1=1"), 1);
+        due("within brackets", Due.holds("(1=1|1/0=0)&1=1"), 1);
+        due("within brackets, &", Due.holds("(1=2&1/0=0)|1=1"), 1);
+        due("behind a !", Due.holds("!(1=2&1/0=0)"), 1);
+        due("an E is asked whole", Due.holds("0*[1/0]=0"), 0);
+        due("both sides are asked", Due.holds("1=2/0|1=1"), 0);
+        due("from the left", Due.holds("1/0=0|1=1"), 0);
     }
 
     /** "TERMS with + or - between two; a TERM: FACTORS with one of * / % between two; from the left on". */
     private static void fromTheLeftOn() {
-        due("10-3-2", worth("10-3-2"), 5);
-        due("10-3+2", worth("10-3+2"), 9);
-        due("100/7/2", worth("100/7/2"), 7);
-        due("100%7*3", worth("100%7*3"), 6);
-        due("3*100%7", worth("3*100%7"), 6);
-        due("2*7/3", worth("2*7/3"), 4);
-        due("7/3*2", worth("7/3*2"), 4);
-        due("1+2*3-8/4", worth("1+2*3-8/4"), 5);
-        due("[1+2]*[3-8]/4", worth("[1+2]*[3-8]/4"), -3);
+        due("10-3-2", Due.worth("10-3-2"), 5);
+        due("10-3+2", Due.worth("10-3+2"), 9);
+        due("100/7/2", Due.worth("100/7/2"), 7);
+        due("100%7*3", Due.worth("100%7*3"), 6);
+        due("3*100%7", Due.worth("3*100%7"), 6);
+        due("2*7/3", Due.worth("2*7/3"), 4);
+        due("7/3*2", Due.worth("7/3*2"), 4);
+        due("1+2*3-8/4", Due.worth("1+2*3-8/4"), 5);
+        due("[1+2]*[3-8]/4", Due.worth("[1+2]*[3-8]/4"), -3);
     }
 
     /** "E, one of < > =, and E", and "!PIECE". */
@@ -569,15 +554,15 @@ public final class TextBoundsTest {
             for (int i = 0; i < 3; i++) {
                 String piece = left + signs[i] + "2";
                 int want = i == Integer.signum(left - 2) + 1 ? 1 : 0;
-                due(piece, holds(piece), want);
-                due("!" + piece, holds("!" + piece), 1 - want);
-                due("!!" + piece, holds("!!" + piece), want);
-                due("!(" + piece + ")", holds("!(" + piece + ")"), 1 - want);
+                due(piece, Due.holds(piece), want);
+                due("!" + piece, Due.holds("!" + piece), 1 - want);
+                due("!!" + piece, Due.holds("!!" + piece), want);
+                due("!(" + piece + ")", Due.holds("!(" + piece + ")"), 1 - want);
             }
         }
-        due("! of a piece, not of its part", holds("!1=2&1=2"), 0);
-        due("! of a piece, not of all parts", holds("!1=1|1=1"), 1);
-        due("& before |", holds("1=1|1=2&1=2"), 1);
-        due("brackets before &", holds("(1=1|1=2)&1=2"), 0);
+        due("! of a piece, not of its part", Due.holds("!1=2&1=2"), 0);
+        due("! of a piece, not of all parts", Due.holds("!1=1|1=1"), 1);
+        due("& before |", Due.holds("1=1|1=2&1=2"), 1);
+        due("brackets before &", Due.holds("(1=1|1=2)&1=2"), 0);
     }
 }

@@ -205,6 +205,12 @@ final class Bounds {
         Due.same(call + " shows", difference(sight(x), sight(maker.get())) != NONE, true);
     }
 
+    /** That asking changes nothing: all that is seen of a paper with an empty tape is seen again. */
+    static void staysAsSeen(String state, ScruffPaper x) {
+        List<Long> first = sight(x);
+        Due.same(state + ": seen again, first difference", difference(sight(x), first), NONE);
+    }
+
     private static int difference(List<Long> one, List<Long> other) {
         for (int i = 0; i < Math.max(one.size(), other.size()); i++) {
             if (i >= one.size() || i >= other.size() || !one.get(i).equals(other.get(i))) {

@@ -65,4 +65,20 @@ final class Due {
         put(x, text);
         return x.story(k, text.length());
     }
+
+    /** What an E says on night 0, which is of day 5. */
+    static int worth(String text) {
+        ScruffPaper x = new ScruffPaper();
+        x.night(5, 0);
+        same("story " + text, story(x, 0, text), 1);
+        return x.says(0, 0);
+    }
+
+    /** Whether a C holds in a law, on day 5 at minute 720. */
+    static int holds(String condition) {
+        ScruffPaper x = new ScruffPaper();
+        x.source(false, 720, 30, 1, 127);
+        same("law with " + condition, law(x, 0, "h1(" + condition + ")"), 1);
+        return x.height(0, 5, 720);
+    }
 }
