@@ -348,6 +348,8 @@ public final class NightBoundsTest {
                 due("a whole year of " + year + ", begun " + begun, x.bound(year, 0), 1000 + (999 + steepest) / steepest - 1);
             }
         }
+        // 4000 * 6 / 7 is 3428.57: rounded down, W(6) is -572, and A 1998 the last one whose shift is rounded to -1142.
+        due("each quotient rounded down", nights(0, -1142).bound(7, 0), 1998);
         due("W at a quarter of 4", waveOf(1, 4), 1000);
         due("W at three quarters of 4", waveOf(3, 4), -1000);
     }
