@@ -92,6 +92,7 @@ public final class LotBoundsTest {
         penIs("10 apart", there(20, 5, 30, 5), 10, 25, 20, 30);
         penIs("9 are too few", there(21, 5, 30, 5), 10, 50, 0, 21);
         penIs("11 are more than 10", there(20, 5, 31, 5), 10, 25, 20, 31);
+        penIs("the last night, though the one before is like it", there(29, 9, 38, 5, 39, 5), 10, 5, 29, 39);
         Bounds.refused("0 apart", NONE, x -> x.pen(2, 0, 6));
         Bounds.refused("-1 apart", NONE, x -> x.pen(2, -1, 6));
         Bounds.refused("11 apart", NONE, x -> x.pen(2, 11, 6));
